@@ -540,11 +540,11 @@ public final class LoftPost {
     }
 
     int startOf(int token) {
-      return starts[safe(token, starts.length)];
+      return token >= 0 && token < starts.length ? starts[token] : 0;
     }
 
     private int sizeOf(int token) {
-      return sizes[safe(token, sizes.length)];
+      return token >= 0 && token < sizes.length ? sizes[token] : 0;
     }
 
     boolean areSame(int token, int other) {
@@ -596,7 +596,16 @@ public final class LoftPost {
       errorPosition = -1;
       boolean fits = true;
       for (int lines = 0; lines < MAX_TOKENS && fits && !isNext(Kind.END); lines++) {
-        fits = readLine(draft) && accept(Kind.SEMICOLON);
+        if (accept(Kind.LOFT)) {
+          fits = readLoft(draft);
+        } else if (accept(Kind.PIGEON)) {
+          fits = readPigeon(draft);
+        } else if (accept(Kind.HAWK)) {
+          fits = readHawk(draft);
+        } else {
+          fits = accept(Kind.LETTER) && readLetter(draft);
+        }
+        fits = fits && accept(Kind.SEMICOLON);
       }
       if (!fits) {
         error = 1;
@@ -623,19 +632,6 @@ public final class LoftPost {
         error = found;
         errorPosition = tape.startOf(at - 1);
       }
-    }
-
-    private boolean readLine(World draft) {
-      if (accept(Kind.LOFT)) {
-        return readLoft(draft);
-      }
-      if (accept(Kind.PIGEON)) {
-        return readPigeon(draft);
-      }
-      if (accept(Kind.HAWK)) {
-        return readHawk(draft);
-      }
-      return accept(Kind.LETTER) && readLetter(draft);
     }
 
     private boolean readLoft(World draft) {

@@ -121,7 +121,8 @@ public final class ModelTest {
   private String drawnText() {
     List<String> lines = drawnLines();
     for (int changes = below(4); changes > 0; changes--) {
-      int line = below(lines.size());
+      // Letters are the last lines, if there are any.
+      int line = oneIn(2) ? below(lines.size()) : lines.size() - 1;
       switch (below(7)) {
         case 0 -> lines.add(below(lines.size() + 1), lines.get(line));
         case 1 -> lines.add(lines.remove(line));

@@ -2,6 +2,8 @@ import java.io.IOException;
 import java.nio.file.Files;
 import java.nio.file.Path;
 import java.util.List;
+import java.util.Map;
+import java.util.TreeMap;
 import java.util.regex.Matcher;
 import java.util.regex.Pattern;
 
@@ -30,7 +32,7 @@ public final class SourceRulesTest {
     forbids(code, "no other method bears the name of a public one", "(?m)^ +(private |static )*\\w+ "
         + "(feed|trim|teach|errorAt|count|loft|pigeon|hawk|letter|bring|lure|pass|foresee|arrives"
         + "|where|blame|doubles|need|mean|digest)\\([^;]*\\{$");
-    methodsAreShort(source);
+    methodsAreSmall(code);
     DUE.end();
   }
 
@@ -39,19 +41,37 @@ public final class SourceRulesTest {
     DUE.is(rule, "", () -> matcher.find() ? matcher.group() : "");
   }
 
-  private static void methodsAreShort(String source) {
-    List<String> lines = source.lines().toList();
+  /** Looks at each method's length, and at how deep its calls go. */
+  private static void methodsAreSmall(String code) {
+    List<String> lines = code.lines().toList();
+    // Methods of one name count as one, whatever class they are in.
+    Map<String, String> bodies = new TreeMap<>();
+    Pattern head = Pattern.compile("( {2}| {4})(?! )[\\w\\[\\] ]*\\b(\\w+)\\([^;]*");
     for (int from = 0; from < lines.size(); from++) {
-      String line = lines.get(from);
-      String indent = line.substring(0, line.length() - line.stripLeading().length());
-      if (line.endsWith(") {") && (indent.length() == 2 || indent.length() == 4)) {
-        int to = from;
-        while (!lines.get(to).equals(indent + "}")) {
-          to++;
-        }
-        int length = to - from + 1;
-        DUE.is("rule 11: the method at line " + (from + 1) + " is short", true, () -> length <= 60);
+      Matcher matcher = head.matcher(lines.get(from));
+      if (matcher.matches() && !matcher.group(2).matches("if|for|while|switch")) {
+        int to = lines.subList(from, lines.size()).indexOf(matcher.group(1) + "}");
+        DUE.is("rule 11: " + matcher.group(2) + " is short", true, () -> to >= 0 && to < 60);
+        String body = String.join("\n", lines.subList(from + 1, from + to));
+        bodies.merge(matcher.group(2), body, String::concat);
       }
     }
+    DUE.is("the methods are found", true, () -> bodies.containsKey("digest")
+        && bodies.containsKey("lure") && bodies.containsKey("readStage"));
+    for (String name : bodies.keySet()) {
+      DUE.is("rule 11: the calls of " + name + " go at most 8 deep", true,
+          () -> depth(name, bodies, 1) <= 8);
+    }
+  }
+
+  private static int depth(String name, Map<String, String> bodies, int above) {
+    int deepest = above;
+    Matcher call = Pattern.compile("\\b(\\w+)\\(").matcher(bodies.get(name));
+    while (above < 12 && call.find()) {
+      if (!call.group(1).equals(name) && bodies.containsKey(call.group(1))) {
+        deepest = Math.max(deepest, depth(call.group(1), bodies, above + 1));
+      }
+    }
+    return deepest;
   }
 }
