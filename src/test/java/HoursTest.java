@@ -101,7 +101,7 @@ public final class HoursTest {
     DUE.is("it has searched", 1, () -> blind.pigeon(0, 6));
     // Sight 0: b is 15 away in the hour 20, when the pigeon has searched for 18 hours.
     LoftPost patient = Due.post("loft a at 0,0; loft b at 10,0 then 10,60 speed 5;"
-        + "pigeon p of b in a speed 5 sight 0; letter l in a by p;");
+        + "pigeon p of b in a speed 5 sight 0; letter k in a by p; letter l in a by p;");
     patient.pass(19);
     DUE.is("searched, hour 19", 18, () -> patient.pigeon(0, 6));
     DUE.is("waits, hour 19", "1: 10,5", () -> spot(patient, 0));
@@ -109,6 +109,12 @@ public final class HoursTest {
     DUE.is("goes on, hour 20", "1: 10,10", () -> spot(patient, 0));
     DUE.is("searched, hour 20", 18, () -> patient.pigeon(0, 6));
     DUE.is("comes home, hour 21", 1, () -> patient.pass(1));
+    DUE.is("searches no more", 0, () -> patient.pigeon(0, 6));
+    // It sets out once more, with the other letter, and has searched for 0 hours then.
+    patient.bring(0, 0);
+    patient.pass(1);
+    DUE.is("sets out once more", "1 1", () -> patient.pigeon(0, 0) + " " + patient.pigeon(0, 5));
+    DUE.is("has not searched", 0, () -> patient.pigeon(0, 6));
   }
 
   private static void homeAtTheSpotOfNoAim() {

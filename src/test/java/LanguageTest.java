@@ -12,6 +12,7 @@ public final class LanguageTest {
     defaults();
     tokenErrors();
     grammarErrors();
+    cutOffLines();
     longestText();
     nameErrors();
     numberErrors();
@@ -100,6 +101,7 @@ public final class LanguageTest {
     right("loft abcdefghij at 1,2;");
     right("loft a123456789 at 1,2;");
     right("loft at1 at 1,2;");
+    right("loft zaz at 1,2; pigeon zz of zaz; loft a09z90 at 1,2; loft a09 at 09,19;");
     right("loft a at 1,2;pigeon a of a;letter a in a by a;");
     right(BIRDS + "letter l in b by p and q,r,p,q and p;");
     right("hawk at 0,0 reach 0; hawk at 63,63 reach 20 rests 24;");
@@ -175,6 +177,54 @@ public final class LanguageTest {
     wrong(1, "letter l in a by p |q;");
     wrong(1, "letter l in a by p and q,|and r;");
     wrong(1, "letter l in a|;");
+    // One token left out.
+    wrong(1, "loft |at 1,2;");
+    wrong(1, "loft a at |,2;");
+    wrong(1, "loft a at 1,2 |3,4;");
+    wrong(1, "loft a at 1,2 |3;");
+    wrong(1, "pigeon |of a;");
+    wrong(1, "pigeon p |a;");
+    wrong(1, "pigeon p of |in a;");
+    wrong(1, "pigeon p of a |a;");
+    wrong(1, "pigeon p of a in |speed 1;");
+    wrong(1, "pigeon p of a |5;");
+    wrong(1, "pigeon p of a speed |sight 5;");
+    wrong(1, "hawk |1,2 reach 3;");
+    wrong(1, "hawk at |reach 3;");
+    wrong(1, "hawk at 1,2 |3;");
+    wrong(1, "hawk at 1,2 reach |rests 4;");
+    wrong(1, "hawk at 1,2 reach 3 |4;");
+    wrong(1, "letter |in a by p;");
+    wrong(1, "letter l |a by p;");
+    wrong(1, "letter l in |by p;");
+    wrong(1, "letter l in a |p;");
+    wrong(1, "letter l in a by |and p;");
+    wrong(1, "letter l in a by |, p;");
+    wrong(1, "letter l in a by p |p;");
+    wrong(1, "|a at 1,2;");
+  }
+
+  /** Each line, cut off by a semicolon or by the end where it can't end. */
+  private static void cutOffLines() {
+    String[] lines = {"loft a at 1 , 2 then 3 , 4 speed 5", "pigeon p of a in a speed 5 sight 5",
+        "hawk at 1 , 2 reach 3 rests 4", "letter l in a by p and p , p and p"};
+    String ends = "loft a at 1,2;loft a at 1,2 then 3,4;loft a at 1,2 then 3,4 speed 5;"
+        + "pigeon p of a;pigeon p of a in a;pigeon p of a in a speed 5;"
+        + "pigeon p of a in a speed 5 sight 5;hawk at 1,2 reach 3;hawk at 1,2 reach 3 rests 4;"
+        + "letter l in a by p;letter l in a by p and p;letter l in a by p and p,p;"
+        + "letter l in a by p and p,p and p;";
+    for (String line : lines) {
+      StringBuilder part = new StringBuilder();
+      for (String token : line.split(" ")) {
+        part.append(part.length() == 0 ? "" : " ").append(token);
+        String told = part.toString().replace(" , ", ",") + ";";
+        if (!(";" + ends).contains(";" + told)) {
+          wrong(1, part + "|;");
+          wrong(1, part + "|");
+          wrong(1, part + " |loft");
+        }
+      }
+    }
   }
 
   private static void longestText() {
