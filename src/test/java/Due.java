@@ -48,6 +48,37 @@ final class Due {
     }
   }
 
+  interface Asked {
+    int answer(int what);
+  }
+
+  /** What a call answers for 0, 1 and so on. */
+  void all(String name, Asked asked, int... due) {
+    for (int what = 0; what < due.length; what++) {
+      int number = what;
+      is(name + ", what " + what, due[what], () -> asked.answer(number));
+    }
+  }
+
+  /** Reads the text on a new post; position -1 says that it has no error. */
+  void reads(String what, String text, int error, int position) {
+    LoftPost post = new LoftPost();
+    feed(post, text);
+    is(what + ": teach() of " + text, error, post::teach);
+    is(what + ": errorAt() of " + text, position, post::errorAt);
+    is(what + ": count(11) behind " + text, 0, () -> post.count(11));
+  }
+
+  void right(String what, String text) {
+    reads(what, text, 0, -1);
+  }
+
+  /** The error is at the place of the bar, which is no part of the text. */
+  void wrong(String what, int error, String marked) {
+    int at = marked.indexOf('|');
+    reads(what, marked.substring(0, at) + marked.substring(at + 1), error, at);
+  }
+
   static int number(byte[] bytes, int at) {
     int number = 0;
     for (int i = at; i < at + 4; i++) {

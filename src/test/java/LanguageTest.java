@@ -24,23 +24,16 @@ public final class LanguageTest {
     DUE.end();
   }
 
-  /** Reads the text on a new post; position -1 says that it has no error. */
   private static void reads(String text, int error, int position) {
-    LoftPost post = new LoftPost();
-    Due.feed(post, text);
-    DUE.is("teach() of " + text, error, post::teach);
-    DUE.is("errorAt() of " + text, position, post::errorAt);
-    DUE.is("count(11) behind " + text, 0, () -> post.count(11));
+    DUE.reads("text", text, error, position);
   }
 
   private static void right(String text) {
-    reads(text, 0, -1);
+    DUE.right("right", text);
   }
 
-  /** The error is at the place of the bar, which is no part of the text. */
   private static void wrong(int error, String marked) {
-    int at = marked.indexOf('|');
-    reads(marked.substring(0, at) + marked.substring(at + 1), error, at);
+    DUE.wrong("wrong", error, marked);
   }
 
   private static void newObject() {
