@@ -27,6 +27,7 @@ public final class AheadEdgesTest {
     blamedNone();
     doublesOfTwenty();
     doublesInTheOrderOfTheStage();
+    doublesFewerThanAll();
     doublesAtTheLimit();
     doublesToALaterStage();
     doublesThatWouldSetOut();
@@ -380,6 +381,19 @@ public final class AheadEdgesTest {
         + "pigeon r of b in a speed 10;pigeon s of b in a speed 10;hawk at 10,0 reach 0 rests 9;";
     DUE.is(sentence + "those alone that would set out", 2,
         () -> Due.post(some + "letter l in a by q and p and r and s;").doubles(0));
+  }
+
+  /** With q alone the hawk catches r and rests as q comes by; with p, too, it catches p and then q. */
+  private static void doublesFewerThanAll() {
+    String sentence = "Promise 18: the least number, though it would not with all";
+    String world = "loft a at 0,0;loft b at 24,0;pigeon p of b in a speed 12;"
+        + "pigeon q of b in a speed 4;pigeon r of b in a speed 6;hawk at 12,0 reach 0 rests 1;";
+    DUE.is(sentence, "1 -1", () -> {
+      LoftPost post = Due.post(world + "letter k in a by r;letter l in a by q and p;");
+      return post.doubles(1) + " " + post.arrives(1);
+    });
+    DUE.is(sentence + ", p first", -1,
+        () -> Due.post(world + "letter k in a by r;letter l in a by p and q;").doubles(1));
   }
 
   /** From 0,0 to where b was, and then towards b as it comes back: this has so many hours. */

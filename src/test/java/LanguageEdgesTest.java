@@ -247,17 +247,18 @@ public final class LanguageEdgesTest {
     DUE.all(sentence + "letter set back", what -> post.letter(0, what), 0, 0, 2, 0, 0, 0, 0, -1);
   }
 
-  /** What is seen ahead. */
+  /** What is seen ahead; the next hour comes last, so that much is still under way in it. */
   private static String seen(LoftPost post) {
     StringBuilder seen = new StringBuilder();
+    seen.append(post.need()).append(' ').append(post.mean());
     for (int letter = 0; letter < post.count(4); letter++) {
       seen.append(' ').append(post.arrives(letter)).append(' ').append(post.blame(letter));
       seen.append(' ').append(post.doubles(letter));
     }
     for (int what = 0; what < 3; what++) {
-      seen.append(' ').append(post.foresee(30, what));
+      seen.append(' ').append(post.foresee(30, what)).append(' ').append(post.foresee(1, what));
     }
-    return seen.append(' ').append(post.need()).append(' ').append(post.mean()).toString();
+    return seen.toString();
   }
 
   private static final String[] TEXTS = {Busy.TEXT, "", "loft a at 0,0;loft b at 30,0;"
@@ -265,7 +266,11 @@ public final class LanguageEdgesTest {
       + "pigeon q of a;pigeon r of b in a;letter k in a by p and r,q;letter l in a by q,q,r;",
       "loft a at 5,5;pigeon p of a;hawk at 5,5 reach 20;letter l in a by p;",
       "loft a at 5,5;loft b at 60,60;pigeon p of b in a speed 1;hawk at 30,30 reach 9 rests 24;"
-      + "letter l in a by p;"};
+      + "letter l in a by p;",
+      // What is more in the first of these two must not act in the second one.
+      "loft a at 0,0;loft b at 30,0;pigeon q of a in b;pigeon p of b in a speed 1;"
+      + "hawk at 9,9 reach 0;letter k in a by p;letter l in a by q;",
+      "loft a at 0,0;loft b at 30,0;pigeon q of b in a speed 1;letter k in b by q;"};
 
   private static void nothingIsLeft() {
     for (String before : TEXTS) {

@@ -20,6 +20,7 @@ public final class WhereaboutsEdgesTest {
     broughtOnes();
     luring();
     leastAndMostHours();
+    lastCalls();
     lettersThatArrive();
     hoursAddUp();
     DUE.end();
@@ -260,10 +261,22 @@ public final class WhereaboutsEdgesTest {
       DUE.refuses(sentence + ", " + hours, Due.ILLEGAL, post, () -> post.pass(hours));
     }
     DUE.is(sentence + ", none went by", 402, () -> post.count(0));
-    for (int calls = 1; calls <= 300; calls++) {
-      post.pass(200);
+  }
+
+  private static void lastCalls() {
+    String sentence = "What it is: at most 512 calls";
+    LoftPost hours = new LoftPost();
+    for (int calls = 1; calls <= 511; calls++) {
+      hours.pass(200);
     }
-    DUE.is(sentence + ", many times", 60402, () -> post.count(0));
+    DUE.is(sentence + ", the 512th tells the hour", 102200, () -> hours.count(0));
+    LoftPost texts = new LoftPost();
+    for (int calls = 1; calls <= 255; calls++) {
+      texts.feed(0x6861776b, 0x20617420, 0x312c3120, 0x72656163, 0x6820313b);
+      DUE.is(sentence + ", a text more", 0, texts::teach);
+    }
+    DUE.is(sentence + ", the 511th tells the hawks", 1, () -> texts.count(3));
+    DUE.is(sentence + ", the 512th tells the reach", 1, () -> texts.hawk(0, 2));
   }
 
   private static void lettersThatArrive() {
